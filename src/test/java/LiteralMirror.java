@@ -362,22 +362,44 @@ final class LiteralMirror {
         return time;
     }
 
+    long block(int node, int block, boolean stable) {
+        if (!in(0, node, 1) || !in(0, block, 31)) {
+            return NONE;
+        }
+        Machine m = machines.get(node);
+        return stable ? m.stable.getOrDefault(block, 0) : m.holds(block);
+    }
+
+    int node(int node, int what) {
+        if (!in(0, node, 1) || !in(0, what, 7)) {
+            return -1;
+        }
+        Machine m = machines.get(node);
+        return List.of(m.up ? 1 : 0, m.role.equals("PRIMARY") ? 1 : 0, m.generation, m.base, m.alone ? 1 : 0,
+            told(m.marks), m.cached.size(), m.witnessLine ? 1 : 0).get(what);
+    }
+
+    int mirror(int what) {
+        if (!in(0, what, 6)) {
+            return -1;
+        }
+        return List.of(connected ? 1 : 0, source == null ? 2 : source, witnessGeneration, holder == null ? 2 : holder,
+            holder == null ? 0 : end, batch.size(), mirrorLine ? 1 : 0).get(what);
+    }
+
+    /** As Mirrors.state tells it. */
     String state() {
         StringBuilder all = new StringBuilder();
-        int[] mirror = {connected ? 1 : 0, source == null ? 2 : source, witnessGeneration, holder == null ? 2 : holder,
-            holder == null ? 0 : end, batch.size(), mirrorLine ? 1 : 0};
-        for (int number : mirror) {
-            all.append(number).append(' ');
+        for (int what = 0; what <= 6; what++) {
+            all.append(mirror(what)).append(' ');
         }
-        for (Machine m : machines) {
+        for (int node = 0; node < 2; node++) {
             all.append("| ");
-            int[] node = {m.up ? 1 : 0, m.role.equals("PRIMARY") ? 1 : 0, m.generation, m.base, m.alone ? 1 : 0,
-                told(m.marks), m.cached.size(), m.witnessLine ? 1 : 0};
-            for (int number : node) {
-                all.append(number).append(' ');
+            for (int what = 0; what <= 7; what++) {
+                all.append(node(node, what)).append(' ');
             }
             for (int block = 0; block < 32; block++) {
-                all.append(m.stable.getOrDefault(block, 0)).append(':').append(m.holds(block)).append(' ');
+                all.append(block(node, block, true)).append(':').append(block(node, block, false)).append(' ');
             }
         }
         for (int cell = 0; cell < 24; cell++) {

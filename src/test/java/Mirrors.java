@@ -1,21 +1,6 @@
 /** Mirrors brought to states that several tests begin with, and all that can be seen of one. */
-final class Mirrors {
-    static final int UP = 0;
-    static final int PRIMARY = 1;
-    static final int GENERATION = 2;
-    static final int BASE = 3;
-    static final int ALONE = 4;
-    static final int MARKS = 5;
-    static final int CACHED = 6;
-    static final int WITNESS_LINE = 7;
-
-    static final int CONNECTED = 0;
-    static final int SOURCE = 1;
-    static final int WITNESS_GENERATION = 2;
-    static final int HOLDER = 3;
-    static final int LEASE_END = 4;
-    static final int BATCH = 5;
-    static final int MIRROR_LINE = 6;
+final class Mirrors implements Whats {
+    static final int CALLS_OF_STATE = 175;
 
     private Mirrors() {
     }
@@ -51,6 +36,51 @@ final class Mirrors {
         return x;
     }
 
+    /** Both nodes are up, not connected, and have new disks. */
+    static WitnessedMirror withTwoNewDisks() {
+        WitnessedMirror x = new WitnessedMirror(50);
+        for (int node = 0; node < 2; node++) {
+            x.crash(node, 0);
+            x.swap(node);
+            x.restart(node);
+        }
+        return x;
+    }
+
+    /** Node 0 is the primary, with a batch of one, and may not go alone. */
+    static WitnessedMirror frozen() {
+        WitnessedMirror x = withPrimary(0);
+        x.stage(2, 5);
+        x.line(false);
+        x.witnessLine(0, false);
+        return x;
+    }
+
+    /** Node 0 is the primary, with as many entries as are given: value 10 + i for cell 5 i. */
+    static WitnessedMirror withBatch(int entries) {
+        WitnessedMirror x = withPrimary(0);
+        for (int i = 0; i < entries; i++) {
+            x.stage(5 * i, 10 + i);
+        }
+        return x;
+    }
+
+    /**
+     * All that can be found out about a mirror, what is in its batch and its time too. The batch is written for that:
+     * nothing is asked of the mirror after this.
+     */
+    static String everything(WitnessedMirror x) {
+        StringBuilder all = new StringBuilder(state(x));
+        all.append("| time ").append(x.tick(0));
+        x.witnessLine(0, true);
+        x.witnessLine(1, true);
+        all.append(" renew ").append(x.renew());
+        all.append(" commit ").append(x.commit(-1, 0));
+        all.append(" then ").append(state(x));
+        return all.toString();
+    }
+
+    /** What a mirror tells of itself, by CALLS_OF_STATE calls. */
     static String state(WitnessedMirror x) {
         StringBuilder all = new StringBuilder();
         for (int what = 0; what <= 6; what++) {

@@ -4,81 +4,145 @@ import java.util.Random;
 final class RandomCalls {
     /** How long an object is used, by the document. */
     static final int CALLS = 512;
+    /** How many calls can be drawn for an object whose state is told in the end. */
+    static final int CALLS_BEFORE_STATE = CALLS - Mirrors.CALLS_OF_STATE;
 
-    final Random random;
-    String call = "";
+    private static final String[] NAMES = {"stage", "commit", "crash", "restart", "swap", "line", "witnessLine", "connect",
+        "resync", "promote", "demote", "renew", "tick", "cell", "block", "node", "mirror"};
+    private static final int[] WEIGHTS = {14, 10, 2, 4, 2, 2, 2, 4, 4, 6, 2, 2, 2, 2, 2, 2, 2};
+
+    private final Random random;
+    private int kind;
+    private int first;
+    private int second;
+    private boolean flag;
 
     RandomCalls(long seed) {
         random = new Random(seed);
     }
 
-    /** Draws a call, does it on x and, if there is one, on the model; answers of both. */
-    int[] next(WitnessedMirror x, LiteralMirror model) {
-        int[] a = draw();
-        boolean flag = a[3] == 1;
-        call = a[0] + "(" + a[1] + ", " + a[2] + ", " + flag + ")";
-        return new int[] {onMirror(x, a, flag), model == null ? 0 : onModel(model, a, flag)};
-    }
-
-    private int[] draw() {
-        int kind = random.nextInt(28);
-        int node = random.nextInt(20) == 0 ? random.nextInt(7) - 3 : random.nextInt(2);
-        int flag = random.nextInt(3) == 0 ? 0 : 1;
-        if (kind < 7) {
-            return new int[] {0, random.nextInt(26) - 1, random.nextInt(), flag};
-        }
-        if (kind < 12) {
-            int cut = random.nextInt(3) == 0 ? random.nextInt(18) : -1;
-            return new int[] {1, cut, random.nextInt(), flag};
-        }
-        switch (kind) {
-            case 12: return new int[] {2, node, random.nextInt(), flag};
-            case 13: case 14: return new int[] {3, node, 0, flag};
-            case 15: return new int[] {4, node, 0, flag};
-            case 16: return new int[] {5, 0, 0, flag};
-            case 17: return new int[] {6, node, 0, flag};
-            case 18: case 19: return new int[] {7, 0, 0, flag};
-            case 20: case 21: return new int[] {8, random.nextInt(7) - 1, 0, flag};
-            case 22: case 23: case 24: return new int[] {9, node, 0, flag};
-            case 25: return new int[] {10, node, 0, flag};
-            case 26: return new int[] {11, 0, 0, flag};
-            default: return new int[] {12, random.nextInt(8) == 0 ? random.nextInt(104) - 1 : random.nextInt(6), 0, flag};
-        }
-    }
-
-    private static int onMirror(WitnessedMirror x, int[] a, boolean flag) {
-        switch (a[0]) {
-            case 0: return x.stage(a[1], a[2]);
-            case 1: return x.commit(a[1], a[2]);
-            case 2: return x.crash(a[1], a[2]);
-            case 3: return x.restart(a[1]);
-            case 4: return x.swap(a[1]);
-            case 5: return x.line(flag);
-            case 6: return x.witnessLine(a[1], flag);
-            case 7: return x.connect();
-            case 8: return x.resync(a[1]);
-            case 9: return x.promote(a[1], flag);
-            case 10: return x.demote(a[1]);
-            case 11: return x.renew();
-            default: return x.tick(a[1]);
+    void draw() {
+        kind = drawKind();
+        first = 0;
+        second = 0;
+        flag = random.nextInt(3) != 0;
+        switch (NAMES[kind]) {
+            case "stage":
+                first = numberOf(0, 23);
+                second = random.nextInt(4) == 0 ? random.nextInt(3) - 1 : random.nextInt();
+                break;
+            case "commit":
+                first = random.nextInt(3) == 0 ? numberOf(0, 16) : -1;
+                second = drawKeep();
+                break;
+            case "crash":
+                first = numberOf(0, 1);
+                second = drawKeep();
+                break;
+            case "resync":
+                first = numberOf(1, 4);
+                break;
+            case "tick":
+                first = random.nextInt(4) == 0 ? numberOf(0, 100) : random.nextInt(6);
+                break;
+            case "cell":
+                first = numberOf(0, 23);
+                break;
+            case "mirror":
+                first = numberOf(0, 6);
+                break;
+            case "block":
+                first = numberOf(0, 1);
+                second = numberOf(0, 31);
+                break;
+            default:
+                first = numberOf(0, 1);
+                second = numberOf(0, 7);
         }
     }
 
-    private static int onModel(LiteralMirror x, int[] a, boolean flag) {
-        switch (a[0]) {
-            case 0: return x.stage(a[1], a[2]);
-            case 1: return x.commit(a[1], a[2]);
-            case 2: return x.crash(a[1], a[2]);
-            case 3: return x.restart(a[1]);
-            case 4: return x.swap(a[1]);
-            case 5: return x.line(flag);
-            case 6: return x.witnessLine(a[1], flag);
-            case 7: return x.connect();
-            case 8: return x.resync(a[1]);
-            case 9: return x.promote(a[1], flag);
-            case 10: return x.demote(a[1]);
-            case 11: return x.renew();
-            default: return x.tick(a[1]);
+    private int drawKind() {
+        int all = 0;
+        for (int weight : WEIGHTS) {
+            all += weight;
         }
+        int left = random.nextInt(all);
+        int drawn = 0;
+        while (left >= WEIGHTS[drawn]) {
+            left -= WEIGHTS[drawn];
+            drawn++;
+        }
+        return drawn;
+    }
+
+    /** A number of the range, at times one that is just outside it or far away. */
+    private int numberOf(int low, int high) {
+        switch (random.nextInt(60)) {
+            case 0: return low - 1;
+            case 1: return high + 1;
+            case 2: return Integer.MIN_VALUE;
+            case 3: return Integer.MAX_VALUE;
+            case 4: return low;
+            case 5: return high;
+            default: return low + random.nextInt(high - low + 1);
+        }
+    }
+
+    private int drawKeep() {
+        switch (random.nextInt(6)) {
+            case 0: return 0;
+            case 1: return -1;
+            case 2: return 1 << random.nextInt(32);
+            default: return random.nextInt();
+        }
+    }
+
+    long on(WitnessedMirror x) {
+        switch (NAMES[kind]) {
+            case "stage": return x.stage(first, second);
+            case "commit": return x.commit(first, second);
+            case "crash": return x.crash(first, second);
+            case "restart": return x.restart(first);
+            case "swap": return x.swap(first);
+            case "line": return x.line(flag);
+            case "witnessLine": return x.witnessLine(first, flag);
+            case "connect": return x.connect();
+            case "resync": return x.resync(first);
+            case "promote": return x.promote(first, flag);
+            case "demote": return x.demote(first);
+            case "renew": return x.renew();
+            case "tick": return x.tick(first);
+            case "cell": return x.cell(first);
+            case "block": return x.block(first, second, flag);
+            case "node": return x.node(first, second);
+            default: return x.mirror(first);
+        }
+    }
+
+    long on(LiteralMirror x) {
+        switch (NAMES[kind]) {
+            case "stage": return x.stage(first, second);
+            case "commit": return x.commit(first, second);
+            case "crash": return x.crash(first, second);
+            case "restart": return x.restart(first);
+            case "swap": return x.swap(first);
+            case "line": return x.line(flag);
+            case "witnessLine": return x.witnessLine(first, flag);
+            case "connect": return x.connect();
+            case "resync": return x.resync(first);
+            case "promote": return x.promote(first, flag);
+            case "demote": return x.demote(first);
+            case "renew": return x.renew();
+            case "tick": return x.tick(first);
+            case "cell": return x.cell(first);
+            case "block": return x.block(first, second, flag);
+            case "node": return x.node(first, second);
+            default: return x.mirror(first);
+        }
+    }
+
+    @Override
+    public String toString() {
+        return NAMES[kind] + "(" + first + ", " + second + ", " + flag + ")";
     }
 }
