@@ -59,6 +59,18 @@ abstract class Edges implements Whats {
         }
     }
 
+    static void marksAre(WitnessedMirror x, int of0, int of1) {
+        is("marks of node 0", of0, x.node(0, MARKS));
+        is("marks of node 1", of1, x.node(1, MARKS));
+    }
+
+    /** All that is told of a node, in the order of its whats. */
+    static void nodeIs(WitnessedMirror x, int node, int[] told) {
+        for (int what = 0; what < told.length; what++) {
+            is("node(" + node + ", " + what + ")", told[what], x.node(node, what));
+        }
+    }
+
     /** The call answers so, and leaves the mirror like another one that was made alike and not asked. */
     static void refused(long want, Supplier<WitnessedMirror> made, ToLongFunction<WitnessedMirror> call) {
         WitnessedMirror asked = made.get();

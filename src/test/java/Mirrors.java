@@ -36,6 +36,16 @@ final class Mirrors implements Whats {
         return x;
     }
 
+    /** Node 0 is the primary and the source, and not alone: node 1 crashed with cell 5 cached, and extent 1 is to be synced. */
+    static WitnessedMirror syncingNotAlone() {
+        WitnessedMirror x = withPrimary(0);
+        write(x, 5, 50);
+        x.crash(1, 0);
+        x.restart(1);
+        x.connect();
+        return x;
+    }
+
     /** Both nodes are up, not connected, and have new disks. */
     static WitnessedMirror withTwoNewDisks() {
         WitnessedMirror x = new WitnessedMirror(50);

@@ -71,7 +71,8 @@ public final class Promise01NewObjectEdgesTest extends Edges {
         says("SYNCING is going on or not (at first not); if it is, one node is the SOURCE and the other the TARGET.");
         edge("no SYNCING", () -> ofTheMirror(SOURCE, NOBODY));
         edge("resync", () -> is("resync(1)", REFUSED, new WitnessedMirror(10).resync(1)));
-        says("It has a generation (1 at first), a time (0 at first), and a LEASE: a holder (a node, or none at first) and an end.");
+        says("It has a generation (1 at first), a time (0 at first), and a LEASE: a holder (a node, or none at first) "
+            + "and an end.");
         edge("the witness's generation is 1", () -> ofTheMirror(WITNESS_GENERATION, 1));
         edge("the time is 0", () -> is("tick(0)", 0, new WitnessedMirror(10).tick(0)));
         edge("the lease has no holder", () -> ofTheMirror(HOLDER, NOBODY));

@@ -4,8 +4,8 @@ public final class Promise03CommitEdgesTest extends Edges {
         frozen();
         goesAlone();
         cutInAndOutOfRange();
-        Promise03Steps.everyCut();
         crashes();
+        Promise03Steps.everyCut();
         done();
         end();
     }
@@ -60,6 +60,11 @@ public final class Promise03CommitEdgesTest extends Edges {
             x.witnessLine(0, false);
             is("commit", DONE, x.commit(-1, 0));
         });
+        edge("they are CONNECTED and SYNCING: not FROZEN", () -> {
+            WitnessedMirror x = Mirrors.syncingNotAlone();
+            x.witnessLine(0, false);
+            is("commit", DONE, Mirrors.write(x, 3, 6));
+        });
         edge("it is ALONE: not FROZEN", () -> {
             WitnessedMirror x = Mirrors.withNode0Alone();
             x.witnessLine(0, false);
@@ -94,6 +99,11 @@ public final class Promise03CommitEdgesTest extends Edges {
             generations(x, 1, 0, 0);
         });
         edge("they are CONNECTED and SYNCING: it does not", () -> {
+            WitnessedMirror x = Mirrors.syncingNotAlone();
+            Mirrors.write(x, 2, 5);
+            generations(x, 1, 0, 0);
+        });
+        edge("they are CONNECTED and SYNCING, and it is ALONE: it does not again", () -> {
             WitnessedMirror x = Mirrors.syncingNewDisk();
             Mirrors.write(x, 2, 5);
             generations(x, 2, 1, 1);

@@ -125,11 +125,6 @@ public final class Promise05CrashEdgesTest extends Edges {
         return x;
     }
 
-    private static void marksAre(WitnessedMirror x, int of0, int of1) {
-        is("marks of node 0", of0, x.node(0, MARKS));
-        is("marks of node 1", of1, x.node(1, MARKS));
-    }
-
     private static void keep() {
         says("Each cached value of a block b of its disk becomes stable if bit b of keep is 1, else it is lost.");
         for (int cell = 0; cell < 24; cell++) {

@@ -41,10 +41,7 @@ public final class Promise06RestartEdgesTest extends Edges {
             WitnessedMirror x = Mirrors.withNode0Alone();
             x.crash(0, -1);
             x.restart(0);
-            int[] node = {1, 0, 2, 1, 1, 65, 0, 1};
-            for (int what = 0; what < node.length; what++) {
-                is("node(0, " + what + ")", node[what], x.node(0, what));
-            }
+            nodeIs(x, 0, new int[] {1, 0, 2, 1, 1, 65, 0, 1});
             is("block 2", 5, x.block(0, 2, true));
             is("holder", 0, x.mirror(HOLDER));
         });

@@ -76,10 +76,7 @@ public final class Promise07SwapEdgesTest extends Edges {
             x.crash(0, 0);
             x.swap(0);
             is("held", 90, x.block(1, 9, false));
-            int[] node = {1, 0, 1, 0, 0, 4, 1, 1};
-            for (int what = 0; what < node.length; what++) {
-                is("node(1, " + what + ")", node[what], x.node(1, what));
-            }
+            nodeIs(x, 1, new int[] {1, 0, 1, 0, 0, 4, 1, 1});
         });
         edge("the witness, the lease and the lines stay", () -> {
             WitnessedMirror x = node0Down();

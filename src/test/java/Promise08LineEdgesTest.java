@@ -50,11 +50,8 @@ public final class Promise08LineEdgesTest extends Edges {
             WitnessedMirror x = Mirrors.withPrimary(0);
             Mirrors.write(x, 9, 90);
             x.line(false);
-            int[][] nodes = {{1, 1, 1, 0, 0, 0, 1, 1}, {1, 0, 1, 0, 0, 0, 1, 1}};
-            for (int what = 0; what < 8; what++) {
-                is("node(0, " + what + ")", nodes[0][what], x.node(0, what));
-                is("node(1, " + what + ")", nodes[1][what], x.node(1, what));
-            }
+            nodeIs(x, 0, new int[] {1, 1, 1, 0, 0, 0, 1, 1});
+            nodeIs(x, 1, new int[] {1, 0, 1, 0, 0, 0, 1, 1});
             is("holder", 0, x.mirror(HOLDER));
         });
         end();

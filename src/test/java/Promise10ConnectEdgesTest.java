@@ -227,8 +227,8 @@ public final class Promise10ConnectEdgesTest extends Edges {
             is("connected", 1, x.mirror(CONNECTED));
             is("source", NOBODY, x.mirror(SOURCE));
         });
-        says("FINISHED means: all cached values of both disks become stable and are no more cached; the node that is not the SOURCE "
-            + "gets the GENERATION of the SOURCE; no node is ALONE, or has MARKS; no SYNCING goes on.");
+        says("FINISHED means: all cached values of both disks become stable and are no more cached; "
+            + "the node that is not the SOURCE gets the GENERATION of the SOURCE; no node is ALONE, or has MARKS; no SYNCING goes on.");
         edge("all cached values of both disks become stable", () -> {
             WitnessedMirror x = Mirrors.withPrimary(0);
             Mirrors.write(x, 5, 50);
@@ -348,10 +348,5 @@ public final class Promise10ConnectEdgesTest extends Edges {
         x.demote(0);
         x.promote(1, true);
         return x;
-    }
-
-    private static void marksAre(WitnessedMirror x, int of0, int of1) {
-        is("marks of node 0", of0, x.node(0, MARKS));
-        is("marks of node 1", of1, x.node(1, MARKS));
     }
 }

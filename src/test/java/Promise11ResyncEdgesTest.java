@@ -90,8 +90,8 @@ public final class Promise11ResyncEdgesTest extends Edges {
     }
 
     private static void leastFirst() {
-        says("the least extent of them is taken out of them, and each of its blocks gets on the disk of the TARGET, as a cached value, "
-            + "what it holds on the disk of the SOURCE.");
+        says("the least extent of them is taken out of them, and each of its blocks gets on the disk of the TARGET, "
+            + "as a cached value, what it holds on the disk of the SOURCE.");
         int left = 255;
         for (int extent = 0; extent < 7; extent++) {
             int before = extent;
@@ -130,7 +130,8 @@ public final class Promise11ResyncEdgesTest extends Edges {
             for (int extent = 0; extent < 6; extent++) {
                 x.resync(1);
                 for (int cell = 0; cell < 24; cell++) {
-                    is("cell " + cell + " after extent " + extent, cell < 4 * extent + 4 ? 100 + cell : 0, x.block(1, cell, false));
+                    int want = cell < 4 * extent + 4 ? 100 + cell : 0;
+                    is("cell " + cell + " after extent " + extent, want, x.block(1, cell, false));
                 }
             }
             x.resync(1);

@@ -118,7 +118,8 @@ public final class Promise12PromoteEdgesTest extends Edges {
 
     private static void outdated() {
         says("It is not the generation of the witness and force is false: OUTDATED.");
-        edge("below it, force is false", () -> refused(OUTDATED, Promise12PromoteEdgesTest::node1Outdated, x -> x.promote(1, false)));
+        edge("below it, force is false",
+            () -> refused(OUTDATED, Promise12PromoteEdgesTest::node1Outdated, x -> x.promote(1, false)));
         edge("below it, force is true: not OUTDATED", () -> is("promote", 0, node1Outdated().promote(1, true)));
         edge("it is that, force is false: not OUTDATED", () -> is("promote", 1, node1Outdated().promote(0, false)));
         edge("below it by more than one", () -> refused(OUTDATED, () -> {
@@ -220,6 +221,13 @@ public final class Promise12PromoteEdgesTest extends Edges {
             x.promote(0, true);
             generations(x, 0, 2, 1, 1);
         });
+        edge("that of the witness, CONNECTED and not ALONE, as the SOURCE of a SYNCING: it does not", () -> {
+            WitnessedMirror x = Mirrors.syncingNotAlone();
+            x.demote(0);
+            x.promote(0, false);
+            generations(x, 0, 1, 0, 0);
+            is("source", 0, x.mirror(SOURCE));
+        });
         edge("that of the witness, CONNECTED and ALONE, as the SOURCE of a SYNCING: it does not", () -> {
             WitnessedMirror x = Mirrors.syncingNewDisk();
             x.demote(0);
@@ -268,8 +276,8 @@ public final class Promise12PromoteEdgesTest extends Edges {
     }
 
     private static void journal() {
-        says("if the mark's block on its disk holds a number m of 1 .. 3, for each i of 0 .. m - 1 in order, if block 25 + 2 i holds a "
-            + "cell number of 0 .. 23, WRITE what block 26 + 2 i holds to that cell's block.");
+        says("if the mark's block on its disk holds a number m of 1 .. 3, for each i of 0 .. m - 1 in order, "
+            + "if block 25 + 2 i holds a cell number of 0 .. 23, WRITE what block 26 + 2 i holds to that cell's block.");
         edge("the entries beyond m are not done", () -> {
             WitnessedMirror x = Mirrors.withPrimary(0);
             x.stage(1, 10);

@@ -58,10 +58,7 @@ public final class Promise13DemoteEdgesTest extends Edges {
         edge("it stays up, CONNECTED, ALONE and of its GENERATION, and its cached values stay", () -> {
             WitnessedMirror x = Mirrors.syncingNewDisk();
             x.demote(0);
-            int[] node = {1, 0, 2, 1, 1, 255, 1, 1};
-            for (int what = 0; what < node.length; what++) {
-                is("node(0, " + what + ")", node[what], x.node(0, what));
-            }
+            nodeIs(x, 0, new int[] {1, 0, 2, 1, 1, 255, 1, 1});
             is("connected", 1, x.mirror(CONNECTED));
             is("source", 0, x.mirror(SOURCE));
         });

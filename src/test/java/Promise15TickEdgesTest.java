@@ -98,10 +98,7 @@ public final class Promise15TickEdgesTest extends Edges {
         edge("its end changes nothing else", () -> {
             WitnessedMirror x = Mirrors.syncingNewDisk();
             x.tick(50);
-            int[] node = {1, 0, 2, 1, 1, 255, 1, 1};
-            for (int what = 0; what < node.length; what++) {
-                is("node(0, " + what + ")", node[what], x.node(0, what));
-            }
+            nodeIs(x, 0, new int[] {1, 0, 2, 1, 1, 255, 1, 1});
             is("connected", 1, x.mirror(CONNECTED));
             is("source", 0, x.mirror(SOURCE));
             is("witness's generation", 2, x.mirror(WITNESS_GENERATION));

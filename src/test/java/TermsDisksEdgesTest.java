@@ -50,7 +50,8 @@ public final class TermsDisksEdgesTest extends Edges {
             Mirrors.write(x, 23, 7);
             is("block 23", 7, x.block(0, 23, false));
         });
-        says("the journal is block 24 (the mark) and, for i = 0, 1, 2, block 25 + 2 i (a cell number) and block 26 + 2 i (a value).");
+        says("the journal is block 24 (the mark) and, for i = 0, 1, 2, block 25 + 2 i (a cell number) "
+            + "and block 26 + 2 i (a value).");
         edge("the first entry is in blocks 25 and 26, and the others get none", () -> {
             WitnessedMirror x = Mirrors.withPrimary(0);
             Mirrors.write(x, 22, 7);
@@ -141,8 +142,22 @@ public final class TermsDisksEdgesTest extends Edges {
             Mirrors.write(x, 4, 40);
             is("own", 40, x.block(1, 4, false));
             is("the other's", 40, x.block(0, 4, false));
-            is("own marks", 0, x.node(1, MARKS));
-            is("the other's marks", 0, x.node(0, MARKS));
+            marksAre(x, 0, 0);
+        });
+        edge("CONNECTED and SYNCING: both disks, and the MARKS of the SOURCE stay, for an extent that is synced", () -> {
+            WitnessedMirror x = Mirrors.syncingNewDisk();
+            x.resync(1);
+            Mirrors.write(x, 0, 40);
+            is("own", 40, x.block(0, 0, false));
+            is("the other's", 40, x.block(1, 0, false));
+            marksAre(x, 254, 0);
+        });
+        edge("CONNECTED and SYNCING: so for an extent that is not synced yet", () -> {
+            WitnessedMirror x = Mirrors.syncingNewDisk();
+            Mirrors.write(x, 23, 40);
+            is("own", 40, x.block(0, 23, false));
+            is("the other's", 40, x.block(1, 23, false));
+            marksAre(x, 255, 0);
         });
         edge("not CONNECTED: one disk, and its MARKS alone", () -> {
             WitnessedMirror x = Mirrors.withPrimary(1);
@@ -150,8 +165,7 @@ public final class TermsDisksEdgesTest extends Edges {
             Mirrors.write(x, 4, 40);
             is("own", 40, x.block(1, 4, false));
             is("the other's", 0, x.block(0, 4, false));
-            is("own marks", 64 + 2, x.node(1, MARKS));
-            is("the other's marks", 0, x.node(0, MARKS));
+            marksAre(x, 0, 64 + 2);
         });
         edge("an extent is added to those that are in the MARKS", () -> {
             WitnessedMirror x = Mirrors.withNode0Alone();
@@ -163,7 +177,8 @@ public final class TermsDisksEdgesTest extends Edges {
             Mirrors.write(x, 2, 1);
             is("marks", 64 + 1, x.node(0, MARKS));
         });
-        says("FLUSH: all cached values of P's disk become stable and are no more cached; if CONNECTED, those of the other disk too.");
+        says("FLUSH: all cached values of P's disk become stable and are no more cached; if CONNECTED, those of the other "
+            + "disk too.");
         edge("CONNECTED: both disks", () -> {
             WitnessedMirror x = Mirrors.withPrimary(0);
             Mirrors.write(x, 4, 40);
@@ -172,6 +187,14 @@ public final class TermsDisksEdgesTest extends Edges {
             is("the other's", 40, x.block(1, 4, true));
             is("own cached", 1, x.node(0, CACHED));
             is("the other's cached", 1, x.node(1, CACHED));
+        });
+        edge("CONNECTED and SYNCING: both disks", () -> {
+            WitnessedMirror x = Mirrors.syncingNewDisk();
+            x.resync(3);
+            is("the other's cached before", 12, x.node(1, CACHED));
+            Mirrors.write(x, 0, 40);
+            is("the other's cached", 1, x.node(1, CACHED));
+            is("the other's", 99, x.block(1, 9, true));
         });
         edge("not CONNECTED: the other disk keeps its cached values", () -> {
             WitnessedMirror x = Mirrors.withPrimary(0);

@@ -22,7 +22,8 @@ public final class TermsNumbersEdgesTest extends Edges {
             () -> refused(REFUSED, Mirrors::withTwoNewDisks, x -> x.promote(2, true)));
         edge("a count too large while SYNCING", () -> refused(REFUSED, Mirrors::syncingNewDisk, x -> x.resync(5)));
         edge("a count too small while SYNCING", () -> refused(REFUSED, Mirrors::syncingNewDisk, x -> x.resync(0)));
-        edge("a count too large where no SYNCING goes on", () -> refused(REFUSED, () -> Mirrors.withPrimary(0), x -> x.resync(5)));
+        edge("a count too large where no SYNCING goes on",
+            () -> refused(REFUSED, () -> Mirrors.withPrimary(0), x -> x.resync(5)));
         edge("a cell too large, the answer being a long: NONE",
             () -> refused(NONE, () -> Mirrors.withPrimary(0), x -> x.cell(24)));
         edge("a cell too large where no node is PRIMARY: NONE",
