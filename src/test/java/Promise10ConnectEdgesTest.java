@@ -228,7 +228,8 @@ public final class Promise10ConnectEdgesTest extends Edges {
             is("source", NOBODY, x.mirror(SOURCE));
         });
         says("FINISHED means: all cached values of both disks become stable and are no more cached; "
-            + "the node that is not the SOURCE gets the GENERATION of the SOURCE; no node is ALONE, or has MARKS; no SYNCING goes on.");
+            + "the node that is not the SOURCE gets the GENERATION of the SOURCE; no node is ALONE, or has MARKS; "
+            + "no SYNCING goes on.");
         edge("all cached values of both disks become stable", () -> {
             WitnessedMirror x = Mirrors.withPrimary(0);
             Mirrors.write(x, 5, 50);
